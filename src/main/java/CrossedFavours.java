@@ -1655,8 +1655,8 @@ public final class CrossedFavours {
                     continue;
                 }
                 next.become(here);
-                // nobody asks for a WORTH behind the last crossing
-                if (depth + 1 < most) {
+                // a WORTH is asked for when its HOUSE is next CROSSED, two crossings on at the earliest
+                if (depth + 2 < most) {
                     next.renewWorth(house);
                 }
                 next.turnDebts(house);

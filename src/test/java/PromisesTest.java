@@ -189,6 +189,9 @@ public final class PromisesTest {
             "y:!!!!!!i=1?1", "-1", "y:!!!!!!!i=1?1", "8", "y:[[[[[[1]]]]]]", "-1", "y:[[[[[[[1", "8",
             "y:((((((i=1))))))?1", "-1", "y:(((((((i", "8", "y:![(", "4", "y:!([!", "5", "y:!(!(![1]=1))?1", "-1",
             "y:!(!(!([1]=1)))?1", "8", "y:!!!!!!i=[1]?1", "10", "y:!!!!!i=[1]?1", "-1", "y:!!!!!!i=1&!i=1?[1]", "-1",
+            "y:i=[[[[[[1]]]]]]?1", "-1", "y:i=[[[[[[[1", "10", "y:i=1?[[[[[[1]]]]]]", "-1", "y:i=1?[[[[[[[1", "12",
+            "y:i=1&!!!!!!i=1?1", "-1", "y:i=1&!!!!!!!i", "12", "y:i=1|((((((i=1))))))?1", "-1", "y:i=1|(((((((i", "12",
+            "y:!i=1|!!!!!!i=1&[[[[[[1]]]]]]=1?1", "-1", "y:[[[[[[i]]]]]]=1?1;y:[[[[[[i]]]]]]", "-1",
             "y:(!i=1)&(((((i=[1])))))?1", "-1", "y:i=1?1;y:!o=2?3;y:4", "-1", "y:1;y", "5", "y:1;x:1", "4", "y:0000", "-1"
         };
         for (int i = 0; i < texts.length; i += 2) {
@@ -602,6 +605,10 @@ public final class PromisesTest {
         due("22 worth", 2, x.worthAfter(0, 2, 0));
         due("22 worth", 1, x.worthAfter(0, 2, 1));
         due("24 like but for the names", 1, x.like(1));
+        CrossedFavours slow = Told.village("p;p;p;p;p;p;fa3b2;fa0b3;fa4b3");
+        Told.text(slow, 2, "423240");
+        due("23 owes", 5, slow.again(0, 0));
+        due("23 worths by the last time", 60, slow.again(0, 1));
         CrossedFavours wild = Told.village("sm99;p;p;fn3");
         Told.text(wild, 2, "01");
         due("23 worths not within 60", NONE, wild.again(0, 1));
@@ -732,6 +739,9 @@ public final class PromisesTest {
         due("30 bounds", NONE, x.seen(0, 1, 1, -100, true));
         // what 0 owes 1 behind once: by 1 -1, by 0 -1, by 2 1, by 07 it can't be; 0 owes 2: 1, 0, 0, -
         due("32 once tells most", 1, x.ask(0, 1));
+        CrossedFavours edge = Told.village("p;p");
+        due("30 lowest", 1, edge.seen(0, 1, 1, -99, false));
+        due("30 highest", 2, edge.seen(1, 0, 9, 99, false));
         due("30 seen", 1, x.seen(0, 1, 1, -1, true));
         due("31 fits", 3, x.fits());
         due("32 never told apart by these two", 1, x.ask(0, 1));
@@ -778,6 +788,13 @@ public final class PromisesTest {
         // with a fourth that can't be two of four are alike at best, behind once already
         Told.text(x, 2, "8");
         due("32 those that can't be are alike", 1, x.ask(0, 2));
+        CrossedFavours late = Told.village("p;p;p;p;fa1b0;fa1b2;fa3b2");
+        Told.text(late, 2, "102323");
+        Told.text(late, 2, "22");
+        for (int n = 1; n <= 8; n++) {
+            due("32 alike behind " + n, late.after(0, n, 0, 1), late.after(1, n, 0, 1));
+        }
+        due("32 behind nine at last", 9, late.ask(0, 1));
     }
 
     // ---- 33 to 37

@@ -20,6 +20,9 @@ public final class RandomRunsTest {
         for (int run = 0; run < runs; run++) {
             new RandomRunsTest(run).go();
         }
+        for (int run = 0; run < runs / 2; run++) {
+            new RandomRunsTest(-1 - run).search();
+        }
         TOLD.close();
     }
 
@@ -67,6 +70,23 @@ public final class RandomRunsTest {
                 due("count", o.count(calls % 12), x.count(calls % 12));
             }
         }
+    }
+
+    /** All searches over rows of crossings, every second time in a village whose house 0 may come to be BARE. */
+    private void search() {
+        put(0, run % 2 == 0 ? Texts.SOON_BARE.replace("m40", "m" + (7 + r(93))) + (r(2) == 0 ? ";p" : ";fa2b1") : Texts.village(random));
+        if (r(3) == 0) {
+            int h = 1 + r(3);
+            due("cross " + h, o.cross(h), x.cross(h));
+        }
+        int most = 3 + r(2);
+        for (int n = 0; n <= most; n++) {
+            due("reach " + n, o.reach(n), x.reach(n));
+            due("fewest " + n + ",0", o.fewest(n, 0), x.fewest(n, 0));
+            due("fewest " + n + ",1", o.fewest(n, 1), x.fewest(n, 1));
+        }
+        due("straight 0", o.straight(0), x.straight(0));
+        due("straight 1", o.straight(1), x.straight(1));
     }
 
     // ---- texts
