@@ -3,7 +3,7 @@ public final class PromisesTest {
     private static final Told TOLD = new Told("promises");
     private static final int NONE = CrossedFavours.NONE;
     private static final int HIDDEN = CrossedFavours.HIDDEN;
-    private static final long THROWN = Long.MIN_VALUE;
+    private static final long THROWN = Told.THROWN;
     private static final String LINE = "pw2;pw3t7;pw5;f;fa1b2n2";
     private static final String RING = "p;p;p;f;fa1b2;fa2b0";
 
