@@ -1,3 +1,5 @@
+import java.math.BigInteger;
+
 /** Of crossings and the other acts (part 2 of the terms, promises 6 to 20), each sentence that names a boundary, in the document's words. */
 public final class ActEdgesTest {
     private static final Told TOLD = new Told("edges of acts");
@@ -116,6 +118,8 @@ public final class ActEdgesTest {
         long worth = seven.cross(0);
         due("times its worth", 2, worth * 7 % 1000003);
         due("and back", 7, seven.cross(0));
+        highPowers();
+        highProducts();
         TOLD.says("AHEAD: WORTHS of all who OWE it above 0, each as often as it OWES, times one another; "
             + "BEHIND: WORTHS of all whom it OWES above 0, likewise (nobody: 1)");
         due("nobody, nobody", 2, free("p;pw9;pw9").cross(0));
@@ -127,6 +131,39 @@ public final class ActEdgesTest {
         due("2 and 3", 5, x.cross(1));
         due("5 and 3 once, by 2", 4, x.cross(0));
         due("the others' stay", 3, Told.house(x, 2, 0));
+    }
+
+    private static final BigInteger PRIME = BigInteger.valueOf(1000003);
+
+    /** A great WORTH as often as can be, each way. */
+    private static void highPowers() {
+        for (int times = 9; times <= 99; times++) {
+            CrossedFavours x = free("sm99;p;pw9;fa1b0n9");
+            BigInteger worth = BigInteger.valueOf(x.cross(0));
+            for (int more = times - 9; more > 0; more -= 9) {
+                x.gives(0, 1, Math.min(9, more));
+            }
+            BigInteger want = worth.pow(times).add(BigInteger.ONE).multiply(BigInteger.valueOf(9).modInverse(PRIME)).mod(PRIME);
+            due("owed by a great worth " + times + " times", want.longValue(), x.cross(1));
+            due("and back, owing it", 9, x.cross(1));
+        }
+    }
+
+    /** Great WORTHS times one another: a house apart of WORTH w comes to be 2 by w. */
+    private static void highProducts() {
+        CrossedFavours ahead = free("sm99;pw3;pw7;pw9;pw6;pw8;p");
+        CrossedFavours behind = free("sm99;pw3;pw7;pw9;pw6;pw8;p");
+        BigInteger product = BigInteger.ONE;
+        for (int house = 0; house < 5; house++) {
+            long worth = ahead.cross(house);
+            due("great", true, worth > 100000 && worth == behind.cross(house));
+            ahead.gives(house, 5, house + 1);
+            behind.gives(5, house, house + 1);
+            product = product.multiply(BigInteger.valueOf(worth).pow(house + 1));
+        }
+        long want = product.add(BigInteger.ONE).mod(PRIME).longValue();
+        due("great ones ahead", want, ahead.cross(5));
+        due("great ones behind", want, behind.cross(5));
     }
 
     private static void whatCannotBe() {
@@ -147,6 +184,10 @@ public final class ActEdgesTest {
         due("can", 5, full.all(11));
         due("less by what there is the other way", 2, free("sm5;p;p;p;fn2;fa1b2n3;fa2b0").cross(1));
         due("more by what there is that way", NONE, free("sm6;p;p;p;fn2;fa1b2n3;fb2").cross(1));
+        due("once times as many as may be, and one there is", NONE, free("sm3;p;p;p;f;fa1b2n3;fb2").cross(1));
+        due("as many as may be times once, and one there is", NONE, free("sm3;p;p;p;fn3;fa1b2;fb2").cross(1));
+        due("once times once, and as many as may be", NONE, free("sm3;p;p;p;f;fa1b2;fb2n3").cross(1));
+        due("once times once, and one fewer", 2, free("sm3;p;p;p;f;fa1b2;fb2n2").cross(1));
         due("the last two of six", NONE, free("sm3;p;p;p;p;p;p;fa4b0n2;fb5n2").cross(0));
         due("the last two of six the other way", NONE, free("sm3;p;p;p;p;p;p;fa5b0n2;fb4n2").cross(0));
         due("the most of all", NONE, free("sm99;p;p;p" + ";fn9".repeat(5) + ";fa1b2n9".repeat(5)).cross(1));
@@ -516,7 +557,7 @@ public final class ActEdgesTest {
     }
 
     private static void statusOfSeveral() {
-        TOLD.says("of several the first; not UNDONE");
+        TOLD.says("beyond the last CROSSING (5); of several the first; not UNDONE");
         CrossedFavours x = Told.village("sc0m9;p;p;fn9");
         due("no such ahead of alike and bounds", HIDDEN, x.gives(2, 2, 0));
         statuses(x, 1, 0, 0, 0, 0, 0);

@@ -191,6 +191,8 @@ public final class ApartEdgesTest {
         reaches("sm1;p;p;p;f;fa1b2", 1, 4, 7, 12, 14);
         // the one in the middle is full, unless both owe it or it owes both
         reaches("sm5;p;p;p;fn2;fa1b2n3", 1, 3, 4, 4, 4);
+        // behind 0 and 3 nothing stops 0 from being crossed once more but that it has come to be bare
+        reaches("sc99m40;pw1;pw2k1;pw5k1;pw3;fa1b0n6;fa2b0n6;fa0b3", 1, 3, 5, 6, 7);
         TOLD.says("REACH. NONE: no VILLAGE, out of bounds.");
         CrossedFavours x = Told.village(ROW);
         due("five", NONE, x.reach(5));
@@ -274,14 +276,14 @@ public final class ApartEdgesTest {
         due("no favours", NONE, Told.village("p;p").ring());
         due("no village", NONE, new CrossedFavours().ring());
         TOLD.says("CHAIN from one to another: the fewest steps, each from one to whom it OWES above 0 (to itself: 0).");
-        for (int to = 0; to < 6; to++) {
-            due("to " + to, to, six.chain(0, to));
-            due("from " + to, (6 - to) % 6, six.chain(to, 0));
+        for (int i = 0; i < 36; i++) {
+            due("from " + i / 6 + " to " + i % 6, (i % 6 + 6 - i / 6) % 6, six.chain(i / 6, i % 6));
         }
         six.gives(0, 4, 1);
         due("shorter", 1, six.chain(0, 4));
         due("shorter", 2, six.chain(0, 5));
         due("of three by now", 3, six.ring());
+        due("two ways of two steps", 2, Told.village("p;p;p;p;f;fb2;fa1b3;fa2b3").chain(0, 3));
         due("itself, with no favours", 0, Told.village("p;p").chain(1, 1));
         TOLD.says("CHAIN. NONE: by none, no such HOUSES.");
         CrossedFavours row = Told.village(ROW);

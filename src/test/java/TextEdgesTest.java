@@ -432,6 +432,36 @@ public final class TextEdgesTest {
         x.law(3);
         due("the fourth law is as it was", 3, Told.house(x, 0, 6));
         due("villages are never too many", 3, Told.text(x, VILLAGE, "p;p;p"));
+        readAnew();
+    }
+
+    /** A reading knows nothing of those ahead of it on the same object. */
+    private static void readAnew() {
+        CrossedFavours x = new CrossedFavours();
+        String most = "sc7m9;p;p;p;p;p;pk1" + times(";f;fa1b0", 6);
+        for (int i = 0; i < 3; i++) {
+            Told.tape(x, most);
+            due("a village with all there may be, once more", NONE, x.fault(VILLAGE));
+            due("a village with all there may be, once more", 6, x.text(VILLAGE));
+            due("nothing is owed", 0, x.all(5));
+            Told.tape(x, "p;p;fa1b1");
+            due("a house that owes itself", 9, x.fault(VILLAGE));
+            Told.tape(x, "p;p;fa5b4n9");
+            due("houses that are not there", 11, x.fault(VILLAGE));
+            due("the smallest behind these", 2, Told.text(x, VILLAGE, "p;p"));
+            due("coins as without", 20, x.count(7));
+            due("many as without", 20, x.count(1));
+            due("nobody kept", 0, x.all(10));
+            due("nothing owed", 0, x.all(5));
+            due("a law", NONE, lawFault(x, "y:i=1?[[[[[[1]]]]]]"));
+            due("no law", 3, lawFault(x, "y:1x"));
+            due("another law", NONE, lawFault(x, "y:!!!!!!i=1?1;y:2"));
+        }
+    }
+
+    private static int lawFault(CrossedFavours x, String text) {
+        Told.tape(x, text);
+        return x.fault(LAW);
     }
 
     private static void villageInstead() {
