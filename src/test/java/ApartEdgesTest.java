@@ -193,6 +193,13 @@ public final class ApartEdgesTest {
         reaches("sm5;p;p;p;fn2;fa1b2n3", 1, 3, 4, 4, 4);
         // behind 0 and 3 nothing stops 0 from being crossed once more but that it has come to be bare
         reaches("sc99m40;pw1;pw2k1;pw5k1;pw3;fa1b0n6;fa2b0n6;fa0b3", 1, 3, 5, 6, 7);
+        // many: told so by the Oracle, too, which goes through all rows
+        String many = "sm99;p;p;p;p;p;p;fa2b4;fa2b5;fa1b4;fa0b5;fa0b2;fa1b2;fa1b3;fa3b4;fa1b5;fa3b5;fa0b3;fa2b3";
+        reaches(many, 1, 7, 34, 155, 713);
+        Oracle oracle = new Oracle();
+        oracle.tape = many;
+        due("a village to the Oracle", 6, oracle.text(0));
+        due("reach 4 by the Oracle", 713, oracle.reach(4));
         TOLD.says("REACH. NONE: no VILLAGE, out of bounds.");
         CrossedFavours x = Told.village(ROW);
         due("five", NONE, x.reach(5));
@@ -218,6 +225,10 @@ public final class ApartEdgesTest {
         straightens("p;p;p;p;f;fa1b2;fa2b3;fa3b0", 2, 1);
         straightens("p;p;p;p;p;f;fa1b2;fa2b3;fa3b4;fa4b0", 3, 12);
         straightens(SHRINKING, 4, 2020);
+        // 0 is apart, and rows that begin with it are no shorter
+        straightens("p;p;p;p;fa1b2;fa2b3;fa3b1", 1, 1);
+        straightens("p;p;p;p;p;fa1b2;fa2b3;fa3b4;fa4b1", 2, 12);
+        straightens("p;p;p;p;p;p;fa1b2;fa2b3;fa3b4;fa4b5;fa5b1", 3, 123);
         TOLD.says("STRAIGHT: how many (0), the row (1). NONE: not by four, no VILLAGE, no such what.");
         // one crossing more than four: by 0 first
         straightens("p;p;p;fn5;fa1b2n6;fa2b0n2", NONE, NONE);

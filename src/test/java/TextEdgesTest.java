@@ -456,6 +456,11 @@ public final class TextEdgesTest {
             due("a law", NONE, lawFault(x, "y:i=1?[[[[[[1]]]]]]"));
             due("no law", 3, lawFault(x, "y:1x"));
             due("another law", NONE, lawFault(x, "y:!!!!!!i=1?1;y:2"));
+            Told.tape(x, "0");
+            due("a song", NONE, x.fault(SONG));
+            x.end(0);
+            due("nothing of it is left", 0, x.fault(SONG));
+            due("nothing of it is left", NONE, x.text(SONG));
         }
     }
 
