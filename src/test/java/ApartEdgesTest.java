@@ -173,6 +173,13 @@ public final class ApartEdgesTest {
 
     // ---- searches
 
+    private static final String[] CLOSE_TABLES = {
+        "sm52;p;p;p;p;fa1b3n9;fa0b1n3;fa2b1;fa3b1n5", "sm89;p;p;p;p;p;fa4b2;fa1b3n9;fa3b0n9;fa3b4;fa1b2n9;fa2b3",
+        "sm24;p;p;p;p;p;p;fa2b5n4;fa3b5n3;fa3b4;fa1b2n6;fa4b5n4;fa2b0n2;fa5b1n6;fa1b5n8;fa5b3n4;fa5b4",
+        "sm83;p;p;p;p;fa0b1;fa3b0", "sm99;p;p;p;p;p;p;fa0b3;fa4b0",
+        "sm63;p;p;p;p;p;p;fa1b2;fa1b0;fa1b2;fa2b4n3;fa2b3;fa1b0;fa0b1;fa0b5"
+    };
+
     private static void reaches(String village, int... want) {
         CrossedFavours x = Told.village(village);
         for (int n = 0; n < want.length; n++) {
@@ -200,6 +207,13 @@ public final class ApartEdgesTest {
         oracle.tape = many;
         due("a village to the Oracle", 6, oracle.text(0));
         due("reach 4 by the Oracle", 713, oracle.reach(4));
+        // tables that have one half in common, or only what a single house owes, are unlike
+        for (String close : CLOSE_TABLES) {
+            Oracle plain = new Oracle();
+            plain.tape = close;
+            plain.text(0);
+            reaches(close, plain.reach(0), plain.reach(1), plain.reach(2), plain.reach(3), plain.reach(4));
+        }
         TOLD.says("REACH. NONE: no VILLAGE, out of bounds.");
         CrossedFavours x = Told.village(ROW);
         due("five", NONE, x.reach(5));
